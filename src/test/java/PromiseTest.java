@@ -26,6 +26,7 @@ public final class PromiseTest {
         promise13Constables();
         promise13Refuge();
         promise13OldComplaints();
+        promise13TwoBanishmentsInAnHour();
         promise13Ways();
         promise13Wrong();
         promise14Count();
@@ -664,6 +665,38 @@ public final class PromiseTest {
         Check.same("13: it goes on to where it went", y.organ(0, 0), 1);
         Check.same("13: to the pitch 4", y.organ(0, 1), 4);
         Check.same("13: an hour less", y.organ(0, 2), 1);
+    }
+
+    /** Of the street 0 first, so that it is no refuge any more from the street 1; not the other way round. */
+    private static void promise13TwoBanishmentsInAnHour() {
+        OrganCensus x = eightOldComplaints(0, 1);
+        x.pass(1);
+        Check.same("13: banished from the street where it was", x.banished(0, 0), 24);
+        Check.same("13: and from where it stands", x.banished(0, 1), 24);
+        Check.same("13: it stays in this street", x.organ(0, 0), 1);
+        Check.same("13: on its way", x.organ(0, 2), 2);
+        OrganCensus y = eightOldComplaints(1, 0);
+        y.pass(1);
+        Check.same("13: banished from where it stands", y.banished(0, 0), 24);
+        Check.same("13: and from where it was", y.banished(0, 1), 24);
+        Check.same("13: it goes on to where it went in this hour", y.organ(0, 0), 1);
+        Check.same("13: as it was", y.organ(0, 2), 2);
+    }
+
+    /** Two that drown each other, with 4 complaints each in one street, stand in the other; in the first one two quiet ones begin. */
+    private static OrganCensus eightOldComplaints(int old, int now) {
+        OrganCensus x = old == 0 ? town(4, 5) : town(5, 4);
+        x.addOrgan(old, 1, 9);
+        x.addOrgan(old, 1, 9);
+        x.pass(1);
+        x.send(0, now, 2);
+        x.send(1, now, 2);
+        x.pass(2);
+        x.addOrgan(old, 0, 1);
+        x.addOrgan(old, 0, 1);
+        Check.same("13: old complaints", x.street(old, 3), 8);
+        Check.same("13: none yet where they stand", x.street(now, 3), 0);
+        return x;
     }
 
     private static void promise13Ways() {
