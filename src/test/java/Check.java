@@ -1,13 +1,34 @@
+import java.util.List;
+import java.util.function.Supplier;
+
 /** What the tests share: it counts what is not as it is due, and tells it. */
 final class Check {
+    static final Class<?> INDEX = IndexOutOfBoundsException.class;
+    static final Class<?> ARGUMENT = IllegalArgumentException.class;
+    static final Class<?> STATE = IllegalStateException.class;
+
     interface Call {
         double answer();
     }
 
+    interface CallOn {
+        double answer(OrganCensus x);
+    }
+
     private static int checks = 0;
     private static int wrong = 0;
+    private static String about = "";
 
     private Check() {
+    }
+
+    /** What the next checks are about: it stands before each wrong answer that is told. */
+    static void about(String words) {
+        about = words;
+    }
+
+    static int checks() {
+        return checks;
     }
 
     static void same(String what, double got, double want) {
@@ -38,11 +59,32 @@ final class Check {
         }
     }
 
-    /** The call throws exactly this exception, and the object's digest stays. */
-    static void refused(String what, OrganCensus x, Class<?> due, Call call) {
-        long before = x.digest();
-        same(what, outcome(call), due.getSimpleName());
-        same("digest after " + what, x.digest(), before);
+    /** The call throws exactly this exception, and nothing that the town answers later shows that it was called. */
+    static void refused(String what, Supplier<OrganCensus> town, Class<?> due, CallOn call) {
+        OrganCensus x = town.get();
+        same(what, outcome(() -> call.answer(x)), due.getSimpleName());
+        alike("after " + what, x, town.get());
+    }
+
+    /** The call throws nothing and answers this. */
+    static void taken(String what, Supplier<OrganCensus> town, double due, CallOn call) {
+        OrganCensus x = town.get();
+        same(what, outcome(() -> call.answer(x)), String.valueOf(due));
+    }
+
+    /** Both answer alike, now and in what comes; they are used up by it. */
+    static void alike(String what, OrganCensus x, OrganCensus y) {
+        checks++;
+        List<String> got = Story.of(x);
+        List<String> want = Story.of(y);
+        for (int i = 0; i < Math.max(got.size(), want.size()); i++) {
+            String one = i < got.size() ? got.get(i) : "the end";
+            String other = i < want.size() ? want.get(i) : "the end";
+            if (!one.equals(other)) {
+                tell(what + ": " + one + ", due is " + other);
+                return;
+            }
+        }
     }
 
     /** The answer as a text, or the simple name of what the call throws. */
@@ -52,6 +94,11 @@ final class Check {
         } catch (Throwable e) {
             return e.getClass().getSimpleName();
         }
+    }
+
+    /** The numbers next to first and last on their outer sides, and the farthest ones. */
+    static int[] outside(int first, int last) {
+        return new int[] {first - 1, last + 1, Integer.MIN_VALUE, Integer.MAX_VALUE};
     }
 
     static void end(String test) {
@@ -64,7 +111,7 @@ final class Check {
     private static void tell(String line) {
         wrong++;
         if (wrong <= 40) {
-            System.out.println(line);
+            System.out.println(about + line);
         }
     }
 }
