@@ -35,6 +35,7 @@ public final class FormTest {
         libraryCalls(text);
         thrown(text);
         methodLengths(text);
+        objectsOfTheConstructorAlone(text);
         members();
         Check.end("FormTest");
     }
@@ -109,6 +110,16 @@ public final class FormTest {
             }
         }
         Check.isTrue("methods", methods > 20);
+    }
+
+    /** Rule 12, more narrowly than it asks: what a call makes stays in the room for the whole run, so none makes anything. */
+    private static void objectsOfTheConstructorAlone(String text) {
+        String calls = text.replaceAll("(?s)\n( +)(?:public )?[A-Z]\\w*\\(\\) \\{\n.*?\n\\1\\}", "")
+            .replaceAll("(?m)^ +(private )?final [\\w\\[\\]]+ \\w+ = new .*$", "").replace("throw new ", "throw ");
+        Check.isTrue("without its constructors the text is shorter", calls.length() < text.length());
+        for (String line : calls.split("\n")) {
+            Check.isTrue("nothing is made in" + line, !line.matches(".*(\\bnew\\b|\\.clone\\(|copyOf|\\.values\\(|= \\{|List\\.of).*"));
+        }
     }
 
     /** Rules 3, 5 and 11. */
